@@ -1,0 +1,102 @@
+/** What the tests share: counting wrong answers, and machines with a text. */
+final class Due {
+    static final int BAD = -1, STATE = -2, FULL = -3, NONE = -9;
+
+    private static int wrong = 0;
+    private static int right = 0;
+
+    private Due() {
+    }
+
+    static void due(String what, long got, long want) {
+        if (got == want) {
+            right++;
+        } else {
+            wrong++;
+            System.out.println(what + " answered " + got + ", due is " + want);
+        }
+    }
+
+    /** Replaces the text. */
+    static EffectMachine text(EffectMachine m, String text) {
+        m.wipe();
+        for (int i = 0; i < text.length(); i++) {
+            due("write of '" + text + "' at " + i, m.write(text.charAt(i)), i + 1);
+        }
+        return m;
+    }
+
+    static EffectMachine loaded(String text) {
+        return loaded(new EffectMachine(), text);
+    }
+
+    static EffectMachine loaded(EffectMachine m, String text) {
+        text(m, text);
+        if (m.load() < 1) {
+            due("load of " + text, STATE, 1);
+        }
+        return m;
+    }
+
+    static EffectMachine defined(EffectMachine m, int p, String text) {
+        text(m, text);
+        if (m.define(p) < 1) {
+            due("define of " + text, STATE, 1);
+        }
+        return m;
+    }
+
+    /** Runs until the run does not go on. */
+    static EffectMachine ran(EffectMachine m) {
+        for (int i = 0; i < 6 && m.told(0) == 1; i++) {
+            m.run(200);
+        }
+        return m;
+    }
+
+    static EffectMachine ran(String text) {
+        return ran(loaded(text));
+    }
+
+    /** The state and the value of the whole run of a text, and its trace. */
+    static void run(String text, int state, int value, int... trace) {
+        ends(ran(text), text, state, value, trace);
+    }
+
+    static void ends(EffectMachine m, String text, int state, int value, int... trace) {
+        due("state of " + text, m.told(0), state);
+        due("value of " + text, m.value(), value);
+        trace(m, text, trace);
+    }
+
+    static void trace(EffectMachine m, String text, int... trace) {
+        due("length of the trace of " + text, m.told(4), trace.length);
+        for (int k = 0; k < trace.length; k++) {
+            due("trace " + k + " of " + text, m.trace(k), trace[k]);
+        }
+    }
+
+    /** The kinds of the frames, the one on top first. */
+    static void kinds(EffectMachine m, String what, int... kinds) {
+        due("frames " + what, m.told(2), kinds.length);
+        for (int k = 0; k < kinds.length; k++) {
+            due("frame " + k + " " + what, m.frame(k, 0), kinds[k]);
+        }
+        due("no more frames " + what, m.frame(kinds.length, 0), BAD);
+    }
+
+    /** The whole listing of the main expression. */
+    static void listing(EffectMachine m, String want) {
+        for (int k = 0; k < want.length(); k++) {
+            due("listing " + k + " of " + want, m.listing(k), want.charAt(k));
+        }
+        due("end of the listing " + want, m.listing(want.length()), NONE);
+    }
+
+    static void finish(String name) {
+        System.out.println(name + ": " + right + " right, " + wrong + " wrong");
+        if (wrong > 0) {
+            System.exit(1);
+        }
+    }
+}
