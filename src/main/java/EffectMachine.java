@@ -295,7 +295,7 @@ public final class EffectMachine {
         int[] variables;
         /** Of @: the handler to which the clause around it belongs. */
         Expr owner;
-        /** Sets of pairs, good only until the next expression or procedure is read. */
+        /** Sets of pairs; each may() finds them anew, as procedures come and go. */
         int leaves;
         int late;
 

@@ -121,7 +121,11 @@ public final class ImagesTest {
         m.back(1);
         Due.ends(Due.ran(m), "from the other image", 2, 4, 2);
         m.restart();
+        m.run(6);
+        Due.kinds(m, "anew", 4, 14);
+        due("not used in this run", m.frame(1, 1), 0);
         Due.ends(Due.ran(m), "anew", 2, 4, 2);
+        due("used more than once", m.told(8), 1);
         m.back(0);
         Due.kinds(m, "resumed", 9, 12, 4, 14);
         due("greatest number", m.told(3), 4);

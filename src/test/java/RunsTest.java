@@ -201,6 +201,9 @@ public final class RunsTest {
         // a resumption that still waits for its value has not been used
         Due.run("{{%^A1 !2 A x @^B3} B x ;!7 8}", 2, 8, 7, 2);
         Due.run("{{%;^A1 ^B2 !3 A x @4} B x 8}", 2, 8, 3);
+        // what is pending outside waits until the clause outside goes on
+        Due.run("{%%^A1 !{^B1 B y 2} !3 A x 9}", 2, 9, 2, 3);
+        Due.run("{%%^A1 !{%^B1 !4 B y 2} !3 A x 9}", 2, 9, 4, 2, 3);
         // finalizers perform, where they stand in the run
         Due.run("{{%^A1 !^B2 A x 5} B x @+x 10}", 2, 5, 12);
         Due.run("{%^A1 ^A2 A x !x}", 3, 2, 1);

@@ -337,6 +337,8 @@ public final class TextsTest {
         due("listing at the end", m.listing(Integer.MAX_VALUE), NONE);
         Due.defined(m, 0, "x");
         Due.listing(m, "+1 2");
+        Due.listing(Due.loaded(m, "3"), "3");
+        Due.listing(Due.loaded(m, "4"), "4");
     }
 
     /** All that an expression may leave, as words like A0. */
@@ -407,6 +409,8 @@ public final class TextsTest {
         leaves("{1 A x {%1 @^B2 B y 3}}", "B0");
         leaves("{{1 A x %2 ^B3} B y 4}", "B0");
         leaves("{{{%1 ^A2} B x 3} A x 4}", "A0");
+        // the clause of @ is late for its handler, and so for @ itself; the inner handler lets it out
+        leaves("{1 A x ;~B%1 ^B2 {@3}}", "B0 B1");
     }
 
     private static void mayOfProcedures() {
@@ -422,6 +426,25 @@ public final class TextsTest {
         Due.defined(m, 1, "1");
         Due.loaded(m, "{1 A x {@^B1 B y ~C@^Cy}}");
         leaves(m, -1, "resumptions", "C1 C2 C3");
+        mayAfterChanges();
+    }
+
+    /** The sets are the smallest ones at each call, whatever was so before. */
+    private static void mayAfterChanges() {
+        for (int p = 0; p < 4; p++) {
+            int other = (p + 1) % 4;
+            EffectMachine m = Due.defined(new EffectMachine(), p, ";&" + other + " x &" + p + " x");
+            leaves(m, p, "a call of nothing", "");
+            Due.defined(m, other, "^Ex");
+            leaves(m, p, "a call of what performs", "E0");
+            m.undefine(other);
+            leaves(m, p, "a call of nothing again", "");
+        }
+        EffectMachine m = Due.defined(new EffectMachine(), 0, "^Ax");
+        Due.loaded(m, "{1 A x {;@1 &0 2}}");
+        leaves(m, -1, "a resumption and a call", "A0");
+        m.undefine(0);
+        leaves(m, -1, "a resumption alone", "");
     }
 
     public static void main(String[] args) {
