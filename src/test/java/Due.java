@@ -18,7 +18,7 @@ final class Due {
     }
 
     /** Replaces the text. */
-    static EffectMachine text(EffectMachine m, String text) {
+    static Machine text(Machine m, String text) {
         m.wipe();
         for (int i = 0; i < text.length(); i++) {
             due("write of '" + text + "' at " + i, m.write(text.charAt(i)), i + 1);
@@ -26,11 +26,11 @@ final class Due {
         return m;
     }
 
-    static EffectMachine loaded(String text) {
-        return loaded(new EffectMachine(), text);
+    static Machine loaded(String text) {
+        return loaded(new Machine(), text);
     }
 
-    static EffectMachine loaded(EffectMachine m, String text) {
+    static Machine loaded(Machine m, String text) {
         text(m, text);
         if (m.load() < 1) {
             due("load of " + text, STATE, 1);
@@ -38,7 +38,7 @@ final class Due {
         return m;
     }
 
-    static EffectMachine defined(EffectMachine m, int p, String text) {
+    static Machine defined(Machine m, int p, String text) {
         text(m, text);
         if (m.define(p) < 1) {
             due("define of " + text, STATE, 1);
@@ -47,14 +47,14 @@ final class Due {
     }
 
     /** Runs until the run does not go on. */
-    static EffectMachine ran(EffectMachine m) {
+    static Machine ran(Machine m) {
         for (int i = 0; i < 6 && m.told(0) == 1; i++) {
             m.run(200);
         }
         return m;
     }
 
-    static EffectMachine ran(String text) {
+    static Machine ran(String text) {
         return ran(loaded(text));
     }
 
@@ -63,13 +63,13 @@ final class Due {
         ends(ran(text), text, state, value, trace);
     }
 
-    static void ends(EffectMachine m, String text, int state, int value, int... trace) {
+    static void ends(Machine m, String text, int state, int value, int... trace) {
         due("state of " + text, m.told(0), state);
         due("value of " + text, m.value(), value);
         trace(m, text, trace);
     }
 
-    static void trace(EffectMachine m, String text, int... trace) {
+    static void trace(Machine m, String text, int... trace) {
         due("length of the trace of " + text, m.told(4), trace.length);
         for (int k = 0; k < trace.length; k++) {
             due("trace " + k + " of " + text, m.trace(k), trace[k]);
@@ -77,7 +77,7 @@ final class Due {
     }
 
     /** The kinds of the frames, the one on top first. */
-    static void kinds(EffectMachine m, String what, int... kinds) {
+    static void kinds(Machine m, String what, int... kinds) {
         due("frames " + what, m.told(2), kinds.length);
         for (int k = 0; k < kinds.length; k++) {
             due("frame " + k + " " + what, m.frame(k, 0), kinds[k]);
@@ -86,7 +86,7 @@ final class Due {
     }
 
     /** The whole listing of the main expression. */
-    static void listing(EffectMachine m, String want) {
+    static void listing(Machine m, String want) {
         for (int k = 0; k < want.length(); k++) {
             due("listing " + k + " of " + want, m.listing(k), want.charAt(k));
         }

@@ -2,13 +2,13 @@ import java.util.Random;
 
 /** Plays the same calls on the program and on the Model and compares every answer. */
 public final class FuzzTest {
-    private static final int CALLS = 512;
+    /** The most calls that are made without asking goesOn() again. */
+    private static final int AT_ONCE = 20;
 
     private final Random random;
-    private final EffectMachine machine = new EffectMachine();
+    private final Machine machine = new Machine();
     private final Model model = new Model();
     private final StringBuilder log = new StringBuilder();
-    private int calls = 0;
     private boolean same = true;
     static long[] seenStates = new long[6];
     static long reusedRuns, finalizedRuns, pendingDrops;
@@ -18,7 +18,6 @@ public final class FuzzTest {
     }
 
     private void compare(String call, int got, int want) {
-        calls++;
         log.append(call).append(" -> ").append(got).append('\n');
         if (got != want) {
             log.append("due is ").append(want).append('\n');
@@ -28,7 +27,7 @@ public final class FuzzTest {
 
     /** Whether another call can be made without leaving what the document promises. */
     private boolean goesOn() {
-        return same && calls < CALLS;
+        return same && machine.callsLeft() >= AT_ONCE;
     }
 
     // ---- texts
@@ -239,21 +238,22 @@ public final class FuzzTest {
     }
 
     private void wholeListing() {
-        for (int k = 0; k < 170; k++) {
-            if (machine.listing(k) != model.listing(k)) {
-                compare("listing(" + k + ")", machine.listing(k), model.listing(k));
+        int got = 0;
+        for (int k = 0; got >= 0 && goesOn(); k++) {
+            got = machine.listing(k);
+            if (got != model.listing(k)) {
+                compare("listing(" + k + ")", got, model.listing(k));
             }
         }
     }
 
     private void allMay() {
-        for (int p = -1; p < 4; p++) {
-            for (int a = 0; a < 6; a++) {
-                for (int level = 0; level < 4; level++) {
-                    if (machine.may(p, a, level) != model.may(p, a, level)) {
-                        compare("may(" + p + ", " + a + ", " + level + ")", machine.may(p, a, level),
-                                model.may(p, a, level));
-                    }
+        int p = random.nextInt(5) - 1;
+        for (int a = 0; a < 6; a++) {
+            for (int level = 0; level < 4 && goesOn(); level++) {
+                int got = machine.may(p, a, level);
+                if (got != model.may(p, a, level)) {
+                    compare("may(" + p + ", " + a + ", " + level + ")", got, model.may(p, a, level));
                 }
             }
         }
@@ -267,8 +267,13 @@ public final class FuzzTest {
         }
         while (goesOn()) {
             writeText(false);
+            if (!goesOn()) {
+                break;
+            }
             compare("load()", machine.load(), model.load());
-            wholeListing();
+            if (random.nextInt(3) == 0) {
+                wholeListing();
+            }
             allMay();
             for (int n = 20 + random.nextInt(100); n > 0 && goesOn(); n--) {
                 oneCall();
@@ -279,7 +284,7 @@ public final class FuzzTest {
 
     public static void main(String[] args) {
         long first = args.length > 0 ? Long.parseLong(args[0]) : 1;
-        long games = args.length > 1 ? Long.parseLong(args[1]) : 3000;
+        long games = args.length > 1 ? Long.parseLong(args[1]) : 6000;
         for (long seed = first; seed < first + games; seed++) {
             FuzzTest game = new FuzzTest(seed);
             boolean fine;

@@ -7,7 +7,7 @@ public final class ImagesTest {
     }
 
     private static void ranges() {
-        EffectMachine m = new EffectMachine();
+        Machine m = new Machine();
         for (int bad : new int[] {-1, 2, Integer.MIN_VALUE, Integer.MAX_VALUE}) {
             due("keep(" + bad + ")", m.keep(bad), BAD);
             due("back(" + bad + ")", m.back(bad), BAD);
@@ -20,7 +20,7 @@ public final class ImagesTest {
     }
 
     private static void states() {
-        EffectMachine m = Due.loaded("+^A1 2");
+        Machine m = Due.loaded("+^A1 2");
         due("keep when it goes on", m.keep(0), 1);
         m.run(200);
         due("keep when open", m.keep(1), 3);
@@ -45,7 +45,7 @@ public final class ImagesTest {
     }
 
     private static void nothingLoaded() {
-        EffectMachine m = Due.defined(new EffectMachine(), 2, "+x 1");
+        Machine m = Due.defined(new Machine(), 2, "+x 1");
         due("keep", m.keep(0), 0);
         Due.ran(Due.loaded(m, ";!1 ;^A2 3"));
         m.undefine(2);
@@ -67,7 +67,7 @@ public final class ImagesTest {
 
     /** The main expression and the procedures come back too; the text does not. */
     private static void programs() {
-        EffectMachine m = Due.defined(new EffectMachine(), 0, "+x 1");
+        Machine m = Due.defined(new Machine(), 0, "+x 1");
         Due.loaded(m, "+&0 1 &1 4");
         m.run(4);
         m.keep(0);
@@ -95,7 +95,7 @@ public final class ImagesTest {
 
     /** Which finalizers were executed, and how often resumptions were used, comes back too. */
     private static void marks() {
-        EffectMachine m = Due.loaded("{%^A1 !2 A x ;@3 @4}");
+        Machine m = Due.loaded("{%^A1 !2 A x ;@3 @4}");
         m.run(9);
         Due.kinds(m, "resumed", 9, 12, 4, 14);
         m.keep(0);

@@ -7,7 +7,7 @@ public final class RunsTest {
     }
 
     /** One step, with what must be so behind it: the focus, the value, and the kinds of the frames. */
-    private static void step(EffectMachine m, String what, int focus, int value, int... kinds) {
+    private static void step(Machine m, String what, int focus, int value, int... kinds) {
         int before = m.told(1);
         m.run(1);
         due("steps behind " + what, m.told(1), before + 1);
@@ -17,10 +17,10 @@ public final class RunsTest {
     }
 
     private static void run() {
-        EffectMachine m = Due.loaded("+1 2");
+        Machine m = Due.loaded("+1 2");
         for (int bad : new int[] {0, -1, 201, Integer.MIN_VALUE, Integer.MAX_VALUE}) {
             due("run(" + bad + ")", m.run(bad), BAD);
-            due("run(" + bad + ") of nothing", new EffectMachine().run(bad), BAD);
+            due("run(" + bad + ") of nothing", new Machine().run(bad), BAD);
         }
         due("no step", m.told(1), 0);
         due("run(3)", m.run(3), 1);
@@ -74,7 +74,7 @@ public final class RunsTest {
     }
 
     private static void steps() {
-        EffectMachine m = Due.loaded("=y !4 ;y ?0 1 y");
+        Machine m = Due.loaded("=y !4 ;y ?0 1 y");
         step(m, "bind", 2, 0, 5);
         step(m, "emit", 2, 0, 6, 5);
         step(m, "4", 1, 4, 6, 5);
@@ -98,7 +98,7 @@ public final class RunsTest {
     }
 
     private static void stepsOfProcedures() {
-        EffectMachine m = Due.defined(new EffectMachine(), 3, "+x 1");
+        Machine m = Due.defined(new Machine(), 3, "+x 1");
         Due.loaded(m, "!&3 ~F 8");
         step(m, "emit", 2, 0, 6);
         step(m, "call", 2, 0, 10, 6);
@@ -123,7 +123,7 @@ public final class RunsTest {
     }
 
     private static void stepsOfHandlers() {
-        EffectMachine m = Due.loaded("+1{^B2 B x @x A y 7 : z *z 5}");
+        Machine m = Due.loaded("+1{^B2 B x @x A y 7 : z *z 5}");
         m.run(3);
         step(m, "handler", 2, 0, 12, 2);
         due("clauses for operations", m.frame(0, 1), 2);
@@ -211,7 +211,7 @@ public final class RunsTest {
     }
 
     private static void finalizerFrames() {
-        EffectMachine m = Due.loaded("{%^A1 !2 A x 9}");
+        Machine m = Due.loaded("{%^A1 !2 A x 9}");
         m.run(2);
         Due.kinds(m, "in the finalizer's expression", 9, 12);
         due("not executed", m.frame(0, 1), 0);
@@ -247,7 +247,7 @@ public final class RunsTest {
     }
 
     private static void openRuns() {
-        EffectMachine m = Due.loaded("!+^C1 ^D2");
+        Machine m = Due.loaded("!+^C1 ^D2");
         due("answer when it goes on", m.answer(1), STATE);
         due("drop when it goes on", m.drop(1), STATE);
         m.run(200);
@@ -278,7 +278,7 @@ public final class RunsTest {
     }
 
     private static void drop() {
-        EffectMachine m = Due.ran("!+^A1 5");
+        Machine m = Due.ran("!+^A1 5");
         due("drop", m.drop(7), 2);
         Due.kinds(m, "of a dropped run", 14);
         due("goes on", m.told(0), 1);
@@ -309,13 +309,13 @@ public final class RunsTest {
     }
 
     /** Frames of ! up to a number, by a procedure that calls itself. */
-    private static EffectMachine deep(String body) {
-        EffectMachine m = Due.defined(new EffectMachine(), 0, body);
+    private static Machine deep(String body) {
+        Machine m = Due.defined(new Machine(), 0, body);
         return Due.loaded(m, "&0 1");
     }
 
     private static void tooDeep() {
-        EffectMachine m = Due.ran(deep("!&0 x"));
+        Machine m = Due.ran(deep("!&0 x"));
         due("too deep", m.told(0), 4);
         due("frames", m.told(2), 100);
         due("greatest number", m.told(3), 100);
@@ -352,7 +352,7 @@ public final class RunsTest {
 
     private static void tooDeepByResumption() {
         // 98 frames emit and the handler are captured; the clause alone is below them
-        EffectMachine m = Due.ran("{" + signs(98) + "^A1A x @x}");
+        Machine m = Due.ran("{" + signs(98) + "^A1A x @x}");
         due("room for 99 on 1", m.told(0), 2);
         due("greatest number", m.told(3), 100);
         m = Due.ran("{" + signs(98) + "^A1A x !@x}");
@@ -366,7 +366,7 @@ public final class RunsTest {
 
     private static void tooDeepByFinalizer() {
         // B captures the clause of A and its own handler; they come upon a clause and the frames emit
-        EffectMachine m = Due.ran("{{%^A1 2A x^B3}B x" + signs(96) + "@x}");
+        Machine m = Due.ran("{{%^A1 2A x^B3}B x" + signs(96) + "@x}");
         due("room for the finalizer", m.told(0), 2);
         due("greatest number", m.told(3), 100);
         due("executed", m.told(9), 1);
@@ -379,7 +379,7 @@ public final class RunsTest {
     }
 
     private static void outOfSteps() {
-        EffectMachine m = Due.defined(new EffectMachine(), 0, "&0 x");
+        Machine m = Due.defined(new Machine(), 0, "&0 x");
         Due.loaded(m, "&0 1");
         for (int i = 1; i < 5; i++) {
             due("run", m.run(200), 1);
@@ -399,13 +399,13 @@ public final class RunsTest {
      * A run that counts down by a procedure: 3 steps for the call, 10 for each round, 3 for the last
      * test, and those of the last part.
      */
-    private static EffectMachine counting(String before, int rounds, String last) {
-        EffectMachine m = Due.defined(new EffectMachine(), 0, "?x &0 -x 1 " + last);
+    private static Machine counting(String before, int rounds, String last) {
+        Machine m = Due.defined(new Machine(), 0, "?x &0 -x 1 " + last);
         return Due.ran(Due.loaded(m, before + " " + rounds));
     }
 
     private static void outOfStepsWhenOpen() {
-        EffectMachine m = counting("&0", 99, "^A1");
+        Machine m = counting("&0", 99, "^A1");
         due("open behind 999 steps", m.told(0), 3);
         due("999 steps", m.told(1), 999);
         due("answered", m.answer(4), 0);
@@ -446,7 +446,7 @@ public final class RunsTest {
     }
 
     private static void told() {
-        EffectMachine m = Due.loaded("{;^A1 ;%2 ^B3 !4 A x ;@x @5 B y @6}");
+        Machine m = Due.loaded("{;^A1 ;%2 ^B3 !4 A x ;@x @5 B y @6}");
         for (int bad : new int[] {-1, 13, Integer.MIN_VALUE, Integer.MAX_VALUE}) {
             due("told(" + bad + ")", m.told(bad), BAD);
         }
@@ -477,7 +477,7 @@ public final class RunsTest {
     }
 
     private static void performed() {
-        EffectMachine m = Due.ran("+^A1 ^F2");
+        Machine m = Due.ran("+^A1 ^F2");
         due("performed(-1)", m.performed(-1), BAD);
         due("performed(6)", m.performed(6), BAD);
         due("performed A", m.performed(0), 1);
@@ -490,13 +490,13 @@ public final class RunsTest {
     }
 
     private static void traceAndValue() {
-        EffectMachine m = Due.ran(";!7 !-0 9");
+        Machine m = Due.ran(";!7 !-0 9");
         due("trace(-1)", m.trace(-1), BAD);
         due("trace 0", m.trace(0), 7);
         due("trace 1", m.trace(1), -9);
         due("trace 2", m.trace(2), NONE);
         due("trace at the end", m.trace(Integer.MAX_VALUE), NONE);
-        due("trace of nothing", new EffectMachine().trace(-1), BAD);
+        due("trace of nothing", new Machine().trace(-1), BAD);
         m = Due.loaded("+3 4");
         due("value of an expression", m.value(), 0);
         due("focus", m.focus(), 2);
@@ -506,7 +506,7 @@ public final class RunsTest {
     }
 
     private static void frames() {
-        EffectMachine m = Due.loaded("{+1 ~A%=x ^A1 2 3 A x 4}");
+        Machine m = Due.loaded("{+1 ~A%=x ^A1 2 3 A x 4}");
         m.run(8);
         Due.kinds(m, "in all", 7, 5, 9, 8, 2, 12);
         int[] properties = {0, NONE, 0, 0, 1, 1};
@@ -533,7 +533,7 @@ public final class RunsTest {
     }
 
     private static void handler() {
-        EffectMachine m = Due.loaded("{{~A!1 A x 1} B x 2 A x 3}");
+        Machine m = Due.loaded("{{~A!1 A x 1} B x 2 A x 3}");
         for (int bad : new int[] {-1, 6, Integer.MIN_VALUE, Integer.MAX_VALUE}) {
             due("handler(" + bad + ")", m.handler(bad), BAD);
         }

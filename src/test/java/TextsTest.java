@@ -7,7 +7,7 @@ public final class TextsTest {
     }
 
     private static void newObject() {
-        EffectMachine m = new EffectMachine();
+        Machine m = new Machine();
         for (int what = 0; what <= 12; what++) {
             due("new told " + what, m.told(what), what == 10 ? NONE : 0);
         }
@@ -35,7 +35,7 @@ public final class TextsTest {
     }
 
     private static void write() {
-        EffectMachine m = new EffectMachine();
+        Machine m = new Machine();
         for (int bad : new int[] {31, 127, -1, 0, 10, 1000, Integer.MIN_VALUE, Integer.MAX_VALUE}) {
             due("write(" + bad + ")", m.write(bad), BAD);
         }
@@ -52,7 +52,7 @@ public final class TextsTest {
     }
 
     private static void wipe() {
-        EffectMachine m = Due.text(new EffectMachine(), "+1 2");
+        Machine m = Due.text(new Machine(), "+1 2");
         due("wipe", m.wipe(), 4);
         due("wipe again", m.wipe(), 0);
         due("length", m.told(11), 0);
@@ -65,7 +65,7 @@ public final class TextsTest {
     }
 
     private static void faults(String text, int asMain, int asBody) {
-        EffectMachine m = Due.text(new EffectMachine(), text);
+        Machine m = Due.text(new Machine(), text);
         due("fault(0) of '" + text + "'", m.fault(0), asMain);
         due("fault(1) of '" + text + "'", m.fault(1), asBody);
         due("load of '" + text + "'", m.load() > 0 ? 1 : 0, asMain == NONE ? 1 : 0);
@@ -80,7 +80,7 @@ public final class TextsTest {
 
     private static void fault() {
         for (int bad : new int[] {-1, 2, Integer.MIN_VALUE, Integer.MAX_VALUE}) {
-            due("fault(" + bad + ")", new EffectMachine().fault(bad), BAD);
+            due("fault(" + bad + ")", new Machine().fault(bad), BAD);
         }
         faults("", 0);
         faults("   ", 3);
@@ -187,7 +187,7 @@ public final class TextsTest {
     }
 
     private static void loads(String text, int expressions) {
-        EffectMachine m = Due.text(new EffectMachine(), text);
+        Machine m = Due.text(new Machine(), text);
         due("load of " + text, m.load(), expressions);
         due("state after load", m.told(0), 1);
         due("focus after load", m.focus(), 2);
@@ -207,13 +207,13 @@ public final class TextsTest {
             deep.append('!');
         }
         loads(deep + "1", 120);
-        due("fault of the deepest that is too short", Due.text(new EffectMachine(), deep + "!").fault(0), 120);
+        due("fault of the deepest that is too short", Due.text(new Machine(), deep + "!").fault(0), 120);
         StringBuilder handlers = new StringBuilder("1");
         for (int i = 0; i < 17; i++) {
             handlers.insert(0, "{").append("Aa@a}");
         }
         loads(handlers.toString(), 17 * 3 + 1);
-        EffectMachine m = Due.ran("+^A 1 !2");
+        Machine m = Due.ran("+^A 1 !2");
         due("open", m.told(0), 3);
         m.answer(5);
         Due.ran(m);
@@ -234,7 +234,7 @@ public final class TextsTest {
     }
 
     private static void define() {
-        EffectMachine m = Due.text(new EffectMachine(), "+x 1");
+        Machine m = Due.text(new Machine(), "+x 1");
         due("define(-1)", m.define(-1), BAD);
         due("define(4)", m.define(4), BAD);
         for (int p = 0; p < 4; p++) {
@@ -259,7 +259,7 @@ public final class TextsTest {
     }
 
     private static void undefine() {
-        EffectMachine m = new EffectMachine();
+        Machine m = new Machine();
         due("undefine(-1)", m.undefine(-1), BAD);
         due("undefine(4)", m.undefine(4), BAD);
         due("undefine of none", m.undefine(3), 0);
@@ -274,7 +274,7 @@ public final class TextsTest {
     }
 
     private static void restart() {
-        EffectMachine m = Due.loaded("+!1 ^A2");
+        Machine m = Due.loaded("+!1 ^A2");
         due("restart of a new run", m.restart(), 1);
         m.run(200);
         due("restart of an open run", m.restart(), 3);
@@ -331,9 +331,9 @@ public final class TextsTest {
             wide.insert(0, '+').append(i > 0 ? " " : "").append(100 + i);
         }
         lists(packed.append("999").toString(), wide.append(" 999").toString());
-        EffectMachine m = Due.loaded("+1 2");
+        Machine m = Due.loaded("+1 2");
         due("listing(-1)", m.listing(-1), BAD);
-        due("listing of none at -1", new EffectMachine().listing(-1), BAD);
+        due("listing of none at -1", new Machine().listing(-1), BAD);
         due("listing at the end", m.listing(Integer.MAX_VALUE), NONE);
         Due.defined(m, 0, "x");
         Due.listing(m, "+1 2");
@@ -342,7 +342,7 @@ public final class TextsTest {
     }
 
     /** All that an expression may leave, as words like A0. */
-    private static void leaves(EffectMachine m, int p, String what, String want) {
+    private static void leaves(Machine m, int p, String what, String want) {
         StringBuilder got = new StringBuilder();
         for (int a = 0; a < 6; a++) {
             for (int level = 0; level < 4; level++) {
@@ -359,10 +359,10 @@ public final class TextsTest {
     }
 
     private static void may() {
-        EffectMachine m = Due.loaded("1");
+        Machine m = Due.loaded("1");
         for (int[] bad : new int[][] {{-2, 0, 0}, {4, 0, 0}, {-1, -1, 0}, {-1, 6, 0}, {-1, 0, -1}, {-1, 0, 4}, {0, 6, 0}}) {
             due("bad may", m.may(bad[0], bad[1], bad[2]), BAD);
-            due("bad may of nothing", new EffectMachine().may(bad[0], bad[1], bad[2]), BAD);
+            due("bad may of nothing", new Machine().may(bad[0], bad[1], bad[2]), BAD);
         }
         due("may of an undefined procedure", m.may(0, 0, 0), STATE);
         leaves("1", "");
@@ -414,7 +414,7 @@ public final class TextsTest {
     }
 
     private static void mayOfProcedures() {
-        EffectMachine m = Due.defined(new EffectMachine(), 0, ";^Ax ~B&1 x");
+        Machine m = Due.defined(new Machine(), 0, ";^Ax ~B&1 x");
         leaves(m, 0, "procedure 0 without 1", "A0");
         Due.defined(m, 1, "?x ^B&0 x %1 ^C1");
         leaves(m, 0, "procedure 0", "A0 B1 B2 B3 C0");
@@ -433,14 +433,14 @@ public final class TextsTest {
     private static void mayAfterChanges() {
         for (int p = 0; p < 4; p++) {
             int other = (p + 1) % 4;
-            EffectMachine m = Due.defined(new EffectMachine(), p, ";&" + other + " x &" + p + " x");
+            Machine m = Due.defined(new Machine(), p, ";&" + other + " x &" + p + " x");
             leaves(m, p, "a call of nothing", "");
             Due.defined(m, other, "^Ex");
             leaves(m, p, "a call of what performs", "E0");
             m.undefine(other);
             leaves(m, p, "a call of nothing again", "");
         }
-        EffectMachine m = Due.defined(new EffectMachine(), 0, "^Ax");
+        Machine m = Due.defined(new Machine(), 0, "^Ax");
         Due.loaded(m, "{1 A x {;@1 &0 2}}");
         leaves(m, -1, "a resumption and a call", "A0");
         m.undefine(0);
