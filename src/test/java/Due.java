@@ -4,6 +4,7 @@ final class Due {
 
     private static int wrong = 0;
     private static int right = 0;
+    private static String context = "";
 
     private Due() {
     }
@@ -13,8 +14,17 @@ final class Due {
             right++;
         } else {
             wrong++;
-            System.out.println(what + " answered " + got + ", due is " + want);
+            System.out.println(context + what + " answered " + got + ", due is " + want);
         }
+    }
+
+    /** What is printed before each wrong answer from now on. */
+    static void about(String words) {
+        context = words;
+    }
+
+    static void same(String what, String got, String want) {
+        due(what + ": '" + got + "', where '" + want + "' is due,", got.equals(want) ? 1 : 0, 1);
     }
 
     /** Replaces the text. */
@@ -83,6 +93,37 @@ final class Due {
             due("frame " + k + " " + what, m.frame(k, 0), kinds[k]);
         }
         due("no more frames " + what, m.frame(kinds.length, 0), BAD);
+    }
+
+    /** One step, with what must be so behind it: the focus, the value, and the kinds of the frames. */
+    static void step(Machine m, String what, int focus, int value, int... kinds) {
+        int before = m.told(1);
+        m.run(1);
+        due("steps behind " + what, m.told(1), before + 1);
+        due("focus behind " + what, m.focus(), focus);
+        due("value behind " + what, m.value(), value);
+        kinds(m, "behind " + what, kinds);
+    }
+
+    /** Makes steps until the frames are of these kinds, and the focus is a value (1) or an expression (2). */
+    static void until(Machine m, int focus, int... kinds) {
+        for (int n = 0; n < 60 && (m.told(2) != kinds.length || m.focus() != focus || m.frame(0, 0) != kinds[0]); n++) {
+            m.run(1);
+        }
+        due("focus", m.focus(), focus);
+        kinds(m, "that were run to", kinds);
+    }
+
+    /**
+     * A run that counts down by procedure 0: 3 steps for the call, 10 for each round, 3 for the last
+     * test, and those of the last part and of what stands before.
+     */
+    static Machine counting(String before, int rounds, String last) {
+        return ran(counted(new Machine(), before, rounds, last));
+    }
+
+    static Machine counted(Machine m, String before, int rounds, String last) {
+        return loaded(defined(m, 0, "?x &0 -x 1 " + last), before + " " + rounds);
     }
 
     /** The whole listing of the main expression. */

@@ -6,14 +6,8 @@ public final class RunsTest {
         Due.due(what, got, want);
     }
 
-    /** One step, with what must be so behind it: the focus, the value, and the kinds of the frames. */
     private static void step(Machine m, String what, int focus, int value, int... kinds) {
-        int before = m.told(1);
-        m.run(1);
-        due("steps behind " + what, m.told(1), before + 1);
-        due("focus behind " + what, m.focus(), focus);
-        due("value behind " + what, m.value(), value);
-        Due.kinds(m, "behind " + what, kinds);
+        Due.step(m, what, focus, value, kinds);
     }
 
     private static void run() {
@@ -395,13 +389,8 @@ public final class RunsTest {
         outOfStepsWhenOpen();
     }
 
-    /**
-     * A run that counts down by a procedure: 3 steps for the call, 10 for each round, 3 for the last
-     * test, and those of the last part.
-     */
     private static Machine counting(String before, int rounds, String last) {
-        Machine m = Due.defined(new Machine(), 0, "?x &0 -x 1 " + last);
-        return Due.ran(Due.loaded(m, before + " " + rounds));
+        return Due.counting(before, rounds, last);
     }
 
     private static void outOfStepsWhenOpen() {
