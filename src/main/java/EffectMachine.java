@@ -41,8 +41,7 @@ public final class EffectMachine {
     private int length = 0;
     private final Reader reader = new Reader();
     private final Lister lister = new Lister();
-    private final PendingSearch search = new PendingSearch();
-    private final Run now = new Run(search);
+    private final Run now = new Run();
 
     /** An image is null as long as it keeps nothing. */
     private final Run[] images = new Run[IMAGES];
@@ -242,7 +241,7 @@ public final class EffectMachine {
             return BAD;
         }
         if (images[i] == null) {
-            images[i] = new Run(search);
+            images[i] = new Run();
         }
         images[i].copyFrom(now);
         return now.state;
@@ -1106,11 +1105,7 @@ public final class EffectMachine {
         final int[] values = new int[TRACE_LIMIT];
         int traced;
         final int[] performs = new int[OPERATIONS];
-        private final PendingSearch search;
-
-        Run(PendingSearch search) {
-            this.search = search;
-        }
+        private final PendingSearch search = new PendingSearch();
 
         void copyFrom(Run other) {
             main = other.main;

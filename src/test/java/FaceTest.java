@@ -76,6 +76,10 @@ public final class FaceTest {
         while (imports.find()) {
             due("import of " + imports.group(1), imports.group(1).equals("java.util.Arrays"));
         }
+        Matcher handed = Pattern.compile("(?m)^ {4,8}(private |final )+\\w+ \\w+ = new \\w+\\(.*\\b[a-z]\\w*\\b.*\\);").matcher(code);
+        while (handed.find()) {
+            due("'" + handed.group().trim() + "' hands out nothing of the object", false);
+        }
         int begun = 0;
         int line = 0;
         for (String each : Files.readAllLines(Path.of(file))) {
